@@ -169,6 +169,12 @@ public final class PromisesTest {
         due("no blanks", Fed.net(x, "point abcdefg;point b;"), 2);
         due("blanks alone", Fed.net(x, " \n "), 0);
         due("none", x.count(0), 0);
+        due("no LINES are SOUND", x.count(2), 0);
+        due("worked out anew", x.count(3), 0);
+        due("words of like letters", Fed.net(x, "point ab;point ba;point az;point pu;point enil;line az ab up 1 1;"), 6);
+        due("worked out anew", x.count(3), 4);
+        due("FIRST", x.line(0, 0), 2);
+        due("SECOND", x.line(0, 1), 0);
         due("0 either way", Fed.net(x, "point a down 0;point b up 00;point c up 99;point d down 99;line d c down 0 4;"), 5);
         due("down 0", x.point(0, 1), 0);
         due("FIXED at 0", x.point(0, 0), 1);
@@ -510,6 +516,18 @@ public final class PromisesTest {
         LevelRings y = of(RING);
         y.strike(2);
         due("BRIDGES", y.blunder(), NONE);
+        // Two LINES with WEIGHTS 1 and w that are 1 apart have a FALL of w / (w + 1)
+        due("2/3, 3/4", twoPairs(2, 3).blunder(), 2);
+        due("3/4, 2/3", twoPairs(3, 2).blunder(), 0);
+        due("3/4, 4/5", twoPairs(3, 4).blunder(), 2);
+        due("4/5, 3/4", twoPairs(4, 3).blunder(), 0);
+        due("1/2, 2/3", twoPairs(1, 2).blunder(), 2);
+        due("3/4, 3/4", twoPairs(3, 3).blunder(), 0);
+    }
+
+    private static LevelRings twoPairs(int w, int v) {
+        return of("point a;point b;point c;point d;line a b up 0 1;line a b up 1 " + w
+            + ";line c d up 0 1;line c d up 1 " + v + ";");
     }
 
     private static void doubt() {
@@ -739,6 +757,7 @@ public final class PromisesTest {
         due("it stays just so", x.drawn(1, 10), 1);
         due("RISE", x.line(0, 2), 99);
         LevelRings y = of(PAIR);
+        due("ahead", y.height(1, 0), 6);
         due("sixty", y.drawn(60, 77) > 0, true);
         x.strike(0);
         x.read(0, 0);
@@ -794,6 +813,10 @@ public final class PromisesTest {
         due("SOUND ones", x.count(2), 2);
         LevelRings y = of(PAIR);
         y.drawn(60, 9);
+        y.strike(1);
+        due("STRUCK", y.count(4), 1);
+        y.undo();
+        due("worked out anew", y.count(4), 0);
         y.undo();
         fraction("worked out anew", w -> y.height(1, w), 6, 1);
     }
@@ -845,7 +868,9 @@ public final class PromisesTest {
         due("its ROW stays", x.fault(1), 0);
         fraction("worked out anew", w -> x.height(1, w), 6, 1);
         x.strike(0);
+        due("STRUCK", x.count(4), 2);
         due("again", x.restore(0), true);
+        due("worked out anew", x.count(4), 0);
         due("the image is untouched by acts", x.count(2), 2);
         due("an image of an empty NET", new LevelRings().image(1), true);
     }
