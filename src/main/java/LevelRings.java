@@ -641,22 +641,15 @@ public final class LevelRings {
                 if (kind == END) {
                     return tape.length <= MOST_TEXT || fails(FAULT_TOKEN);
                 }
-                if (!readsRow(net)) {
+                if (!isWord(pointWord) && !isWord(lineWord)) {
+                    return fails(FAULT_TOKEN);
+                }
+                if (!(isWord(pointWord) ? readsPoint(net) : readsLine(net))) {
                     return false;
                 }
                 rows++;
             }
             return fails(FAULT_MANY);
-        }
-
-        private boolean readsRow(Net net) {
-            if (kind == WORD && value == pointWord) {
-                return readsPoint(net);
-            }
-            if (kind == WORD && value == lineWord) {
-                return readsLine(net);
-            }
-            return fails(FAULT_TOKEN);
         }
 
         private boolean readsPoint(Net net) {
@@ -733,9 +726,8 @@ public final class LevelRings {
         }
 
         private boolean readsHeight() {
-            boolean up = kind == WORD && value == upWord;
-            boolean down = kind == WORD && value == downWord;
-            if (!up && !down) {
+            boolean up = isWord(upWord);
+            if (!up && !isWord(downWord)) {
                 return fails(FAULT_TOKEN);
             }
             step();
@@ -749,6 +741,10 @@ public final class LevelRings {
         private boolean readsSemicolon() {
             step();
             return kind == SEMICOLON || fails(FAULT_TOKEN);
+        }
+
+        private boolean isWord(long word) {
+            return kind == WORD && value == word;
         }
 
         private boolean isName() {

@@ -4,7 +4,7 @@ import java.util.NoSuchElementException;
 import java.util.Random;
 import java.util.function.LongSupplier;
 
-/** Runs of drawn calls, each answered by LevelRings and by the Model. */
+/** Runs of drawn calls, each answered by LevelRings and by the Model; an argument tells how many runs. */
 public final class ModelTest {
     private static final int NET_RUNS = 400;
     private static final int TEXT_RUNS = 20000;
@@ -20,7 +20,8 @@ public final class ModelTest {
     }
 
     public static void main(String[] args) {
-        for (int seed = 0; seed < NET_RUNS && wrong == 0; seed++) {
+        int runs = args.length > 0 ? Integer.parseInt(args[0]) : NET_RUNS;
+        for (int seed = 0; seed < runs && wrong == 0; seed++) {
             new ModelTest(seed).runNet();
         }
         ModelTest texts = new ModelTest(-1);

@@ -523,6 +523,8 @@ public final class PromisesTest {
         due("4/5, 3/4", twoPairs(4, 3).blunder(), 0);
         due("1/2, 2/3", twoPairs(1, 2).blunder(), 2);
         due("3/4, 3/4", twoPairs(3, 3).blunder(), 0);
+        LevelRings z = of("point a;point b;point c;point d;line a b up 0 1;line a b up 1 3;line c d up 0 4;line c d up 1 1;");
+        due("3/4, 4/5 of heavy ones", z.blunder(), 2);
     }
 
     private static LevelRings twoPairs(int w, int v) {
