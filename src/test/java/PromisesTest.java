@@ -1,25 +1,5 @@
-import java.util.NoSuchElementException;
-import java.util.function.LongSupplier;
-
 /** One method for each promise of the document: ordinary inputs, the edges it names, wrong inputs. */
-public final class PromisesTest {
-    private static final int NONE = LevelRings.NONE;
-    private static final int HIDDEN = LevelRings.HIDDEN;
-    private static final int LEAST = Integer.MIN_VALUE;
-    private static final int MOST = Integer.MAX_VALUE;
-
-    /** A RING of three LINES that closes by 1, at a FIXED POINT. */
-    private static final String RING =
-        "point a up 10;point b;point c;line a b up 5 1;line b c up 3 1;line a c up 9 1;";
-    /** Two LINES between the same POINTS: HEIGHT of b is (4 + 2 * 7) / 3 = 6. */
-    private static final String PAIR = "point a up 0;point b;line a b up 4 1;line a b up 7 2;";
-    /** Two FIXED POINTS, a LINE between them, a FREE one with a LINE to each, one that hangs from it, one alone. */
-    private static final String FIXED = "point a;point b up 20;point c down 5;point d;point e;"
-        + "line b c down 30 2;line c a up 8 1;line b a down 15 3;line d a up 6 4;";
-
-    private static int wrong = 0;
-    private static int promise = 0;
-
+public final class PromisesTest extends Due {
     public static void main(String[] args) {
         Runnable[] promises = {
             PromisesTest::newObject, PromisesTest::feed, PromisesTest::end, PromisesTest::net, PromisesTest::fault,
@@ -30,69 +10,11 @@ public final class PromisesTest {
             PromisesTest::weigh, PromisesTest::add, PromisesTest::fix, PromisesTest::free, PromisesTest::drawn,
             PromisesTest::undo, PromisesTest::image, PromisesTest::restore, PromisesTest::count
         };
-        for (Runnable test : promises) {
-            promise++;
-            test.run();
+        for (int i = 0; i < promises.length; i++) {
+            where = "promise " + (i + 1);
+            promises[i].run();
         }
-        System.out.println(wrong == 0 ? promise + " promises hold" : wrong + " answers are not as due");
-        if (wrong != 0) {
-            System.exit(1);
-        }
-    }
-
-    // ---- helpers ----
-
-    private static void due(String what, long got, long want) {
-        if (got != want) {
-            wrong++;
-            System.out.println("promise " + promise + ": " + what + " answered " + got + ", due is " + want);
-        }
-    }
-
-    private static void due(String what, boolean got, boolean want) {
-        due(what, got ? 1 : 0, want ? 1 : 0);
-    }
-
-    private static void refuses(String what, LongSupplier call) {
-        try {
-            due(what + " does not throw", call.getAsLong(), Long.MIN_VALUE);
-        } catch (NoSuchElementException e) {
-            // as due
-        }
-    }
-
-    private static LevelRings of(String text) {
-        LevelRings x = new LevelRings();
-        if (Fed.net(x, text) < 0) {
-            throw new IllegalStateException(text);
-        }
-        return x;
-    }
-
-    /** How a call tells of a fraction. */
-    private interface Told {
-        long half(int what);
-    }
-
-    private static void fraction(String what, Told told, long above, long below) {
-        due(what + " above", told.half(0), above);
-        due(what + " below", told.half(1), below);
-        for (int other : new int[] {-1, 2, LEAST, MOST}) {
-            refuses(what + " by " + other, () -> told.half(other));
-        }
-    }
-
-    private static void faultAt(String text, int kind, int place, int row) {
-        LevelRings x = of(PAIR);
-        due("net of '" + text + "'", Fed.net(x, text), -1 - place);
-        due("kind of '" + text + "'", x.fault(0), kind);
-        due("row of '" + text + "'", x.fault(1), row);
-        due("POINTS behind '" + text + "'", x.count(0), 2);
-        due("tape behind '" + text + "'", x.count(7), 0);
-    }
-
-    private static String blanks(int n) {
-        return " ".repeat(n);
+        finish(promises.length + " promises hold");
     }
 
     // ---- the promises ----
