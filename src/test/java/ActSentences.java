@@ -299,6 +299,11 @@ final class ActSentences extends Due {
             due("worked out anew", x.count(5), 0b1011);
             due("the other one", x.free(2), 0);
             is("a ROOT", w -> x.height(0, w), 0, 1);
+            LevelRings y = of("point a;point b up 9;line b a up 1 1;line a b up 1 1;");
+            due("from a FIXED one", y.ring(1), 0b1);
+            y.free(1);
+            due("from the ROOT", y.ring(1), 0b1);
+            due("1 - -1", y.closes(1), 2);
         });
         book.says("1: it is;", () -> {
             idle("free", x -> x.free(0), 1);

@@ -360,6 +360,8 @@ final class AskSentences extends Due {
             x.strike(5);
             x.strike(4);
             due("of those left", x.worst(), 2);
+            due("LINE 0, between FIXED ones", of(FIXED).worst(), 0);
+            due("LINE 10", lastIsOff().worst(), 10);
         });
         book.says("of like ones the least;", () -> {
             LevelRings x = of("point a;point b;line a b up 0 1;line a b up 1 1;line a b down 3 1;line a b up 3 1;line a b down 3 1;");
@@ -443,11 +445,10 @@ final class AskSentences extends Due {
             due("the last one", x.blunder(), 2);
             x.strike(2);
             due("of those left", x.blunder(), 0);
-            LevelRings y = of("point a;point b;");
-            for (int l = 0; l < 11; l++) {
-                y.add(0, 1, l == 10 ? 99 : 0, 1);
+            due("LINE 10", lastIsOff().blunder(), 10);
+            for (int i = 0; i < 256; i++) {
+                twoPairs(i % 4 + 1, i / 4 % 4 + 1, i / 16 % 4 + 1, i / 64 + 1);
             }
-            due("LINE 10", y.blunder(), 10);
         });
         book.says("NONE: there is none.", () -> {
             due("of none", new LevelRings().blunder(), NONE);
@@ -459,6 +460,22 @@ final class AskSentences extends Due {
             x.strike(0);
             due("all STRUCK", x.blunder(), NONE);
         });
+    }
+
+    /** Eleven LINES between two POINTS, the last of which is off. */
+    private static LevelRings lastIsOff() {
+        LevelRings x = of("point a;point b;");
+        for (int l = 0; l < 11; l++) {
+            x.add(0, 1, l == 10 ? 99 : 0, 1);
+        }
+        return x;
+    }
+
+    /** Two LINES with WEIGHTS v and w that are 1 apart have a FALL of v * w / (v + w) each. */
+    private static void twoPairs(int a, int b, int c, int d) {
+        LevelRings x = of("point a;point b;point c;point d;line a b up 0 " + a + ";line a b up 1 " + b
+            + ";line c d up 0 " + c + ";line c d up 1 " + d + ";");
+        due("WEIGHTS " + a + ", " + b + " and " + c + ", " + d, x.blunder(), a * b * (c + d) >= c * d * (a + b) ? 0 : 2);
     }
 
     private static void doubt(Book book) {
@@ -501,6 +518,9 @@ final class AskSentences extends Due {
             x.strike(0);
             due("the lesser one", x.next(0), 0);
             due("the other one", x.next(1), 1);
+            LevelRings six = of("point a;point b;point c;point d;point e;point f;line f e up 1 1;line a b up 1 2;");
+            due("the lesser one of six", six.next(0), 4);
+            due("the other one of six", six.next(1), 5);
         });
         book.says("NONE: no two are TIED,", () -> {
             LevelRings x = of("point a;point b up 1;line a b up 1 1;");

@@ -23,6 +23,7 @@ public final class LanguageTest {
 
     public static void main(String[] args) throws IOException {
         face();
+        faceAsTold(Files.readString(Path.of("../shared/DOC.md")));
         classesInside();
         text(Files.readString(Path.of("src/main/java/LevelRings.java")));
         room();
@@ -57,6 +58,29 @@ public final class LanguageTest {
         due("constructors", made.length, 1);
         due("parameters of it", made[0].getParameterCount(), 0);
         due("the class", LevelRings.class.getModifiers(), Modifier.PUBLIC | Modifier.FINAL);
+    }
+
+    /** Each method as the document's face writes it, but for the names of its parameters. */
+    private static void faceAsTold(String document) {
+        Set<String> told = new TreeSet<>();
+        Matcher row = Pattern.compile("public (\\w+ \\w+)\\((.*)\\)( throws \\w+)?;").matcher(document);
+        while (row.find()) {
+            String parameters = Stream.of(row.group(2).split(", ")).map(p -> p.split(" ")[0])
+                .collect(Collectors.joining(", "));
+            told.add(row.group(1) + "(" + parameters + ")" + (row.group(3) == null ? "" : row.group(3)));
+        }
+        Set<String> written = new TreeSet<>();
+        for (Method m : LevelRings.class.getDeclaredMethods()) {
+            if (Modifier.isPublic(m.getModifiers())) {
+                String parameters = Stream.of(m.getParameterTypes()).map(Class::getSimpleName)
+                    .collect(Collectors.joining(", "));
+                String thrown = Stream.of(m.getExceptionTypes()).map(c -> " throws " + c.getSimpleName())
+                    .collect(Collectors.joining());
+                written.add(m.getReturnType().getSimpleName() + " " + m.getName() + "(" + parameters + ")" + thrown);
+            }
+        }
+        due("the face", written, told);
+        due("methods of the face", told.size(), FACE.size());
     }
 
     private static void classesInside() {

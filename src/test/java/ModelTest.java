@@ -6,14 +6,20 @@ import java.util.function.LongSupplier;
 
 /** Runs of drawn calls, each answered by LevelRings and by the Model; an argument tells how many runs. */
 public final class ModelTest {
-    private static final int NET_RUNS = 400;
+    private static final int NET_RUNS = 1600;
     private static final int TEXT_RUNS = 20000;
+    /** What an object answers behind so many calls is free, so none is asked more often. */
+    private static final int MOST_CALLS = 512;
+    /** More calls than an act with all that is asked behind it, or a text, can come to. */
+    private static final int MOST_OF_A_ROUND = 120;
+    private static final int[] FAR = {Integer.MIN_VALUE, Integer.MAX_VALUE, -32, 32, 33, 64, -1000000, 256};
     private static int wrong = 0;
 
     private final Random random;
     private LevelRings x = new LevelRings();
     private Model m = new Model();
     private final StringBuilder run = new StringBuilder();
+    private int calls = 0;
 
     private ModelTest(long seed) {
         random = new Random(seed);
@@ -39,17 +45,24 @@ public final class ModelTest {
     private void runNet() {
         feed(randomNet());
         same("net()", () -> x.net(), () -> m.net());
-        for (int i = 0; i < 25; i++) {
+        while (hasRoom()) {
             act();
-            askAll();
+            if (random.nextInt(4) == 0) {
+                askAll();
+            }
         }
     }
 
+    private boolean hasRoom() {
+        return calls + MOST_OF_A_ROUND <= MOST_CALLS;
+    }
+
     private void runText() {
-        if (random.nextInt(50) == 0) {
+        if (!hasRoom()) {
             x = new LevelRings();
             m = new Model();
             run.setLength(0);
+            calls = 0;
         }
         feed(randomText());
         same("net()", () -> x.net(), () -> m.net());
@@ -71,6 +84,9 @@ public final class ModelTest {
     }
 
     private int near(int from, int to) {
+        if (random.nextInt(40) == 0) {
+            return FAR[random.nextInt(FAR.length)];
+        }
         return random.nextInt(12) == 0 ? from - 1 : from + random.nextInt(to - from + 2);
     }
 
@@ -213,8 +229,7 @@ public final class ModelTest {
     private void feed(String text) {
         run.append("\n  text ").append(text.replace("\n", "\\n"));
         byte[] bytes = text.getBytes(StandardCharsets.ISO_8859_1);
-        x.end(0);
-        m.end(0);
+        same("end(0)", () -> x.end(0) ? 1 : 0, () -> m.end(0) ? 1 : 0);
         for (int from = 0; from < bytes.length; from += 20) {
             byte[] row = Arrays.copyOfRange(bytes, from, from + 20);
             int[] five = new int[5];
@@ -238,6 +253,10 @@ public final class ModelTest {
     }
 
     private void same(String call, LongSupplier got, LongSupplier due) {
+        calls++;
+        if (calls > MOST_CALLS) {
+            throw new IllegalStateException("more calls than an object is for");
+        }
         String is = answer(got);
         String should = answer(due);
         run.append("\n  ").append(call).append(" = ").append(is);

@@ -197,6 +197,10 @@ final class TextSentences extends Due {
                 due("FIXED " + p, x.point(p, 0), due[p][0]);
                 due("HEIGHT " + p, x.point(p, 1), due[p][1]);
             }
+            Fed.net(x, "point a;point b up 3;point c;");
+            for (int p = 0; p < 3; p++) {
+                due("FIXED " + p + " behind another NET", x.point(p, 0), p == 1 ? 1 : 0);
+            }
         });
         book.says("a LINE goes from its FIRST POINT to its SECOND one, its HEIGHT is its RISE.", () -> {
             LevelRings x = of(TWO + "point c;line c a down 12 3;line b c up 4 2;");
@@ -254,10 +258,13 @@ final class TextSentences extends Due {
             // Neither can come there, and neither is told.
             faultAt("line up b up 1 1;", 1, 5, 0);
             faultAt("line 7 b up 1 1;", 1, 5, 0);
+            faultAt("line ! b up 1 1;", 1, 5, 0);
+            faultAt("line ; b up 1 1;", 1, 5, 0);
             faultAt("line abcdefgh b up 1 1;", 1, 5, 0);
             // No NUMBER, and none of 1 to 4.
             faultAt(TWO + "line a b up 1 999;", 1, 30, 2);
             faultAt(TWO + "line a b up 1 0a;", 1, 30, 2);
+            faultAt(TWO + "line a b up 1 !;", 1, 30, 2);
             // Not told, and as the first one.
             faultAt("line q q up 1 1;", 3, 5, 0);
             // It can't come there, and it would be a seventh.
@@ -303,6 +310,8 @@ final class TextSentences extends Due {
             faultAt("point " + blanks(493) + "abcdefg;", 1, 500, 0);
             faultAt("point " + blanks(493) + "abcdefgh;", 1, 499, 0);
             faultAt("point " + blanks(493) + "a1;", 1, 499, 0);
+            faultAt("point " + "z".repeat(534), 1, 6, 0);
+            faultAt("point a up " + "1".repeat(529), 1, 11, 0);
             faultAt("point a up " + blanks(488) + "12;", 1, 500, 0);
             faultAt("point a up " + blanks(488) + "123;", 1, 499, 0);
             faultAt(TWO + "line a b up 1 " + blanks(469) + "12;", 2, 499, 2);
@@ -444,6 +453,13 @@ final class TextSentences extends Due {
                 due("what comes behind it", x.net(), -1 - n);
             }
             due("none of none", new LevelRings().end(0), true);
+            LevelRings x = new LevelRings();
+            x.feed(0x706f696e, 0x74206131, 0x3b202020, 0x20202020, 0x20202020);
+            x.end(7);
+            due("'point a' of 'point a1;'", x.net(), -1 - 7);
+            x.feed(0x706f696e, 0x7420613b, 0x21202020, 0x20202020, 0x20202020);
+            x.end(8);
+            due("'point a;' of 'point a;!'", x.net(), 1);
         });
         book.says("false, if it has not so many,", () -> {
             due("one of none", new LevelRings().end(1), false);
@@ -479,6 +495,13 @@ final class TextSentences extends Due {
             due("bytes", x.count(7), 0);
             due("the tape begins anew", x.feed(0x20202020, 0x20202020, 0x20202020, 0x20202020, 0x20202020), 20);
             due("nothing of it is left", x.net(), 0);
+            LevelRings y = of(SIX + lines(11));
+            is("ahead", w -> y.height(1, w), 5, 1);
+            Fed.net(y, PAIR);
+            is("worked out anew", w -> y.height(1, w), 6, 1);
+            due("SOUND ones", y.count(2), 2);
+            due("PARTS", y.count(3), 1);
+            alike("a NET behind another one", y, of(PAIR));
         });
         book.says("how many ROWS;", () -> {
             reads("", 0);

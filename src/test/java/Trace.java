@@ -15,8 +15,11 @@ final class Trace {
         told(x, all);
         sought(x, all);
         for (int i = 0; i < MORE_THAN_ARE_KEPT; i++) {
-            all.append("\n  undo ").append(x.undo());
-            told(x, all);
+            int left = x.undo();
+            all.append("\n  undo ").append(left);
+            if (left != LevelRings.NONE) {
+                told(x, all);
+            }
         }
         for (int k = 0; k < 2; k++) {
             boolean kept = x.restore(k);
