@@ -20,8 +20,8 @@ public final class LevelRings {
     private static final int FAULT_NAME = 3;
     private static final int FAULT_MANY = 4;
 
-    private final Tape tape = new Tape();
-    private final Reader reader = new Reader(tape);
+    private final Reader reader = new Reader();
+    private final Tape tape = reader.tape;
     private final Net now = new Net();
     private final Net spare = new Net();
     private final Acts acts = new Acts();
@@ -157,14 +157,17 @@ public final class LevelRings {
     }
 
     public int ring(int l) {
+        settle();
         return hasRing(l) ? ties.ringOf(now, l) : NONE;
     }
 
     public int closes(int l) {
+        settle();
         return hasRing(l) ? ties.closingOf(now, l) : HIDDEN;
     }
 
     public int worst() {
+        settle();
         int most = NONE;
         int mostOff = -1;
         for (int l = 0; l < now.lines; l++) {
@@ -454,7 +457,6 @@ public final class LevelRings {
     }
 
     private boolean hasRing(int l) {
-        settle();
         return isLine(l) && bit(ties.ringLines, l) == 1;
     }
 
@@ -612,7 +614,7 @@ public final class LevelRings {
         private static final int MOST_LETTERS = 7;
         private static final int MOST_DIGITS = 2;
 
-        private final Tape tape;
+        final Tape tape = new Tape();
         private final long[] names = new long[MOST_POINTS];
         private final long pointWord = packed("point");
         private final long lineWord = packed("line");
@@ -626,10 +628,6 @@ public final class LevelRings {
         int rows = 0;
         int faultKind = 0;
         int faultPlace = 0;
-
-        Reader(Tape tape) {
-            this.tape = tape;
-        }
 
         boolean readsInto(Net net) {
             net.clear();

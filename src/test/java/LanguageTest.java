@@ -26,6 +26,7 @@ public final class LanguageTest {
         faceAsTold(Files.readString(Path.of("../shared/DOC.md")));
         classesInside();
         text(Files.readString(Path.of("src/main/java/LevelRings.java")));
+        calls(Calls.of("src/main/java/LevelRings.java"));
         room();
         System.out.println(wrong == 0 ? "the language is kept to" : wrong + " breaks of the language");
         if (wrong != 0) {
@@ -125,6 +126,23 @@ public final class LanguageTest {
                 began = i;
             }
         }
+    }
+
+    /** Rules 4, 8, 11, 12: what is called, how deep, and what a constructor gives away. */
+    private static void calls(Calls calls) {
+        Set<String> beyond = new TreeSet<>(calls.library);
+        // The super class's constructor and the one exception of the face; of the library what the class needs.
+        beyond.removeAll(Set.of("Object.<init>", "NoSuchElementException.<init>", "Math.min", "Math.max", "Math.abs",
+            "Math.floorDiv", "Integer.bitCount", "String.length", "String.charAt"));
+        due("calls of the library beyond these", beyond, Set.of());
+        due("the methods of the face are seen", calls.within.keySet().containsAll(FACE.stream()
+            .map(name -> "LevelRings." + name).collect(Collectors.toList())), true);
+        for (String name : calls.within.keySet()) {
+            // Eight deep, the caller's own method among them.
+            due(name + " goes at most seven deep", calls.depth(name) <= 7, true);
+        }
+        due("what constructors hand out", calls.handedOut, Set.of());
+        calls.fields.forEach((name, fields) -> due(name + " has at most twenty fields", fields <= 20, true));
     }
 
     /** A call makes nothing, but for the exception that it throws: the rows stand since the constructor. */
